@@ -658,14 +658,10 @@ public final class FarFromAnybody {
                 row = new byte[YARDS];
                 rows[start] = row;
             }
-            if (stamps[start] != stamp) {
-                stamps[start] = stamp;
-                spread(start, row);
+            if (stamps[start] == stamp) {
+                return row;
             }
-            return row;
-        }
-
-        private void spread(int start, byte[] row) {
+            stamps[start] = stamp;
             Arrays.fill(row, (byte) NONE);
             row[start] = 0;
             queue[0] = start;
@@ -688,6 +684,7 @@ public final class FarFromAnybody {
                     }
                 }
             }
+            return row;
         }
     }
 
@@ -1133,9 +1130,10 @@ public final class FarFromAnybody {
         int bestYard;
         private final Camp camp;
         private final int[] facts;
+        private int kin;
+        private int farOfKin;
         private int far;
         private int near;
-        private int kin;
 
         King(Camp itsCamp, Ways itsWays) {
             camp = itsCamp;
@@ -1144,12 +1142,14 @@ public final class FarFromAnybody {
         }
 
         int farOf(int tent) {
-            measure(tent);
+            measureKin(tent);
+            measureAt(tent, camp.yards[tent]);
             return far;
         }
 
         int payOf(int tent) {
-            measure(tent);
+            measureKin(tent);
+            measureAt(tent, camp.yards[tent]);
             return payFor(camp.yards[tent], far, near, kin);
         }
 
@@ -1197,6 +1197,7 @@ public final class FarFromAnybody {
             int lastY = Math.min(camp.h - 1, homeY + reach);
             int most = NONE;
             bestYard = camp.yards[tent];
+            measureKin(tent);
             for (int y = Math.max(0, homeY - reach); y <= lastY; y++) {
                 for (int x = Math.max(0, homeX - reach); x <= lastX; x++) {
                     // What touches at a corner alone is not beside.
@@ -1205,8 +1206,7 @@ public final class FarFromAnybody {
                     if (corner || !camp.couldStand(yard, tent, camp.families[tent])) {
                         continue;
                     }
-                    camp.yards[tent] = yard;
-                    measure(tent);
+                    measureAt(tent, yard);
                     int pay = payFor(yard, far, near, kin);
                     if (pay > most) {
                         most = pay;
@@ -1214,35 +1214,39 @@ public final class FarFromAnybody {
                     }
                 }
             }
-            camp.yards[tent] = SIDE * homeY + homeX;
             return most;
         }
 
-        private void measure(int tent) {
-            far = NOBODY_FAR;
-            near = 0;
+        /** How many kin a tent has, and how far they are: wherever it goes itself, these stay. */
+        private void measureKin(int tent) {
             kin = 0;
-            int bodies = camp.bodies();
+            farOfKin = NOBODY_FAR;
             for (int one = 0; one < camp.tents; one++) {
-                boolean isKin = camp.areKin(one, tent);
-                if (one != tent && !isKin) {
+                if (camp.areKin(one, tent)) {
+                    kin++;
+                    measureAt(one, camp.yards[one]);
+                    farOfKin = far;
+                }
+            }
+        }
+
+        /** How far a tent were on a yard, its measured kin with it, and how many were near. */
+        private void measureAt(int tent, int yard) {
+            byte[] row = ways.from(yard);
+            int bodies = camp.bodies();
+            far = farOfKin;
+            near = 0;
+            for (int other = 0; other < bodies; other++) {
+                int there = camp.yardOfBody(other);
+                if (other == tent || there == NONE || row[there] == NONE) {
                     continue;
                 }
-                if (isKin) {
-                    kin++;
+                int length = row[there];
+                if (length <= 1) {
+                    near++;
                 }
-                byte[] row = ways.from(camp.yards[one]);
-                for (int other = 0; other < bodies; other++) {
-                    int yard = camp.yardOfBody(other);
-                    if (other == one || yard == NONE || row[yard] == NONE) {
-                        continue;
-                    }
-                    if (one == tent && row[yard] <= 1) {
-                        near++;
-                    }
-                    if (row[yard] < far && !camp.areKin(one, other)) {
-                        far = row[yard];
-                    }
+                if (length < far && !camp.areKin(tent, other)) {
+                    far = length;
                 }
             }
         }

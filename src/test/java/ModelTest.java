@@ -27,6 +27,11 @@ public final class ModelTest {
         }
         Check.about("laws");
         laws(LAWS);
+        Check.about("placings");
+        placings(6, 6, "pay far*far+near*3+water-edge when x+y>1; pay far;", 2, 2);
+        placings(5, 5, "pay far*4+x*y/2-near;", 3, 1);
+        placings(9, 3, "pay 20-far when x>3; pay far*2+edge;", 3, 7);
+        placings(6, 6, "pay far*3+x-water*2;", 3, 4);
         Check.about("long evenings");
         longEvenings();
         Check.end();
@@ -372,6 +377,27 @@ public final class ModelTest {
             b.setLength(400);
         }
         return b.toString();
+    }
+
+    private static void placings(int w, int h, String law, int k, int fine) {
+        FarFromAnybody x = new FarFromAnybody();
+        Model m = new Model();
+        x.plain(w, h);
+        m.plain(w, h);
+        Check.law(x, law);
+        m.tape.append(law);
+        m.text();
+        int[] waters = {1, 11, 21, 12, 22, 4};
+        for (int i = 0; i < waters.length; i++) {
+            x.yard(waters[i], i == 2 ? 2 : 1);
+            m.yard(waters[i], i == 2 ? 2 : 1);
+        }
+        x.set(0, 0, fine);
+        m.set(0, 0, fine);
+        int[] whats = {0, 1, k, 10, 10 + k, 20, 20 + k};
+        for (int what : whats) {
+            Check.due("placings(" + k + "," + what + ") by " + law, x.placings(k, what), m.placings(k, what));
+        }
     }
 
     /** Evenings on which nothing changes any more, and such on which the law itself does. */
