@@ -34,6 +34,8 @@ public final class ModelTest {
         placings(6, 6, "pay far*3+x-water*2;", 3, 4);
         Check.about("long evenings");
         longEvenings();
+        Check.about("rests");
+        rests();
         Check.end();
     }
 
@@ -430,6 +432,72 @@ public final class ModelTest {
                     Check.due("SPENT", x.look(8), m.look(8));
                     Check.due("EVENING", x.look(7), m.look(7));
                 }
+            }
+        }
+    }
+
+    /** Tents that hunt one another at once: long rests, circles with a run-up, and neither by sixty noons. */
+    private static void rests() {
+        int[] seen = new int[3];
+        for (int seed = 0; seed < 300; seed++) {
+            Random lot = new Random(seed);
+            FarFromAnybody x = new FarFromAnybody();
+            Model m = new Model();
+            int w = 3 + lot.nextInt(3);
+            int h = 3 + lot.nextInt(2);
+            x.plain(w, h);
+            m.plain(w, h);
+            String law = law(lot);
+            Check.law(x, law);
+            m.tape.append(law);
+            m.text();
+            for (int t = 2 + lot.nextInt(4); t > 0; t--) {
+                int yard = 10 * lot.nextInt(h) + lot.nextInt(w);
+                int family = lot.nextInt(3);
+                int mode = 1 + lot.nextInt(2);
+                x.tent(yard, family, mode);
+                m.tent(yard, family, mode);
+            }
+            x.set(1, 0, 1);
+            m.set(1, 0, 1);
+            restsAlike(x, m, seed, seen);
+        }
+        neitherBySixty(seen);
+        Check.due("some rest, some go in circles, some do neither", seen[0] > 9 && seen[1] > 9 && seen[2] > 0, true);
+    }
+
+    private static void restsAlike(FarFromAnybody x, Model m, int seed, int[] seen) {
+        int noons = m.rest(0);
+        int circle = m.rest(1);
+        Check.due("rest(0) by lot " + seed, x.rest(0), noons);
+        Check.due("rest(1) by lot " + seed, x.rest(1), circle);
+        seen[noons >= 0 ? 0 : circle > 0 ? 1 : 2]++;
+    }
+
+    private static void neitherBySixty(int[] seen) {
+        FarFromAnybody x = new FarFromAnybody();
+        Model m = new Model();
+        String law = "pay 1*near+2*edge+44 when x<3;pay 6*y+7*far+25;";
+        x.plain(8, 7);
+        m.plain(8, 7);
+        Check.law(x, law);
+        m.tape.append(law);
+        m.text();
+        x.yard(17, 1);
+        m.yard(17, 1);
+        int[][] tents = {{25, 0, 1}, {23, 1, 1}, {60, 2, 2}, {50, 0, 1}, {41, 0, 1}};
+        for (int[] t : tents) {
+            x.tent(t[0], t[1], t[2]);
+            m.tent(t[0], t[1], t[2]);
+        }
+        x.set(1, 0, 1);
+        m.set(1, 0, 1);
+        restsAlike(x, m, -1, seen);
+        // A few noons on, the same, as EVENING is not asked for by this law.
+        for (int i = 0; i < 40; i++) {
+            Check.due("evenings(7)", x.evenings(7), m.evenings(7));
+            if (i % 8 == 0) {
+                restsAlike(x, m, i, seen);
             }
         }
     }

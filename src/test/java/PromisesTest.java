@@ -450,6 +450,15 @@ public final class PromisesTest {
         faultOf(x, "pay Far;", 1, 4);
         faultOf(x, "pay farX;", 1, 4);
         faultOf(x, "PAY 1;", 1, 0);
+        for (char sign : new char[] {'A', 'Z', 'a', 'z'}) {
+            faultOf(x, "pay" + sign + " 1;", 1, 0);
+        }
+        for (char sign : new char[] {'@', '[', '`', '{'}) {
+            faultOf(x, "pay" + sign + " 1;", 1, 3);
+        }
+        for (char sign : new char[] {'/', ':'}) {
+            faultOf(x, "pay 1" + sign + ";", 1, sign == '/' ? 6 : 5);
+        }
         faultOf(x, "pay 1\t;", 1, 5);
         faultOf(x, "pay 1\r;", 1, 5);
         faultOf(x, "pay 1#;", 1, 5);
@@ -754,6 +763,9 @@ public final class PromisesTest {
         x.set(1, 0, 1);
         due("at once a circle", x.rest(0), -1);
         due("of two", x.rest(1), 2);
+        x.set(0, 0, 1);
+        due("for a fine they rest", x.rest(0), 0);
+        due("no circle then", x.rest(1), 0);
         due("nothing of it stays", x.of(0, 0), 0);
         // One of kin comes beside the one who can't flee then.
         x.plain(2, 2);
@@ -1094,6 +1106,10 @@ public final class PromisesTest {
             }
         }
         x.evenings(1);
+        for (int yard = 0; yard < 30; yard++) {
+            x.man(yard);
+        }
+        due("five men", x.look(3), 5);
         int[] later = all(x);
         x.image(true);
         x.plain(2, 2);
@@ -1145,6 +1161,12 @@ public final class PromisesTest {
         due("look(20)", x.look(20), -1);
         due("look(21)", x.look(21), 8);
         due("look(22)", x.look(22), -1);
+        due("look(30)", x.look(30), -1);
+        for (int t = 2; t < 10; t++) {
+            x.tent(t < 6 ? t : t + 4, 0, 0);
+            x.told(t, 5 * t);
+        }
+        due("look(29)", x.look(29), 45);
         due("look(30)", x.look(30), -1);
         due("look(-1)", x.look(-1), -1);
     }
