@@ -10,7 +10,9 @@ public final class EdgesOfDaysTest {
         byWhim();
         turnsAndAtOnce();
         drawsAtOnce();
+        tenAtOnce();
         coins();
+        manyEvenings();
         ofATent();
         farOf();
         where();
@@ -326,6 +328,33 @@ public final class EdgesOfDaysTest {
         }
     }
 
+    /** Ten who all go at once: the last by its own number. */
+    private static void tenAtOnce() {
+        Edge.of(13, "then by number each goes, if it could stand there then");
+        Edge.Scene rows = x -> {
+            x.plain(10, 2);
+            Check.law(x, "pay 9 when y=1; pay 0;");
+            for (int tent = 0; tent < 10; tent++) {
+                x.tent(9 - tent, 0, 2);
+            }
+            x.set(1, 0, 1);
+        };
+        Edge.is(rows, "ten go at once", x -> x.evenings(1), 10);
+        Edge.is(rows, "the tenth", x -> x.evenings(1) == 10 ? x.of(9, 0) : -2, 10);
+        Edge.is(rows, "the first", x -> x.evenings(1) == 10 ? x.of(0, 0) : -2, 19);
+        Edge.is(rows, "MOVES of the tenth", x -> x.evenings(200) == 10 ? x.of(9, 4) : -2, 1);
+        Edge.is(rows, "SPENT", x -> x.evenings(200) == 10 ? x.look(8) : -2, 200 * 10 * 9);
+        Edge.is(and(rows, x -> x.set(1, 0, 0)), "ten go by turns", x -> x.evenings(1), 10);
+        Edge.Scene rush = and(rows, x -> {
+            Check.law(x, "pay 9 when x=0 and y=1; pay 0;");
+            for (int tent = 0; tent < 10; tent++) {
+                x.set(2, tent, 1);
+            }
+        });
+        Edge.is(rush, "all ten to one yard: one goes", x -> x.evenings(1), 1);
+        Edge.is(rush, "the first of them", x -> x.evenings(1) == 1 ? x.at(10, 1) : -2, 0);
+    }
+
     private static void coins() {
         Edge.of(13, "then each TENT gets its PAY, less FINE if it went: COIN (0 at first; may go below 0)");
         for (int pay = 0; pay <= 2; pay++) {
@@ -359,6 +388,53 @@ public final class EdgesOfDaysTest {
         Edge.is(two(0, 0), "none at first", x -> x.of(0, 4), 0);
         Edge.is(two(0, 0), "one", x -> x.evenings(200) == 2 ? x.of(0, 4) : -2, 1);
         Edge.is(and(two(0, 0), x -> x.set(3, 0, 1)), "to be put is no going", x -> x.of(0, 4), 0);
+    }
+
+    /** Evenings on which nobody goes, in one call: each pays for itself. */
+    private static void manyEvenings() {
+        Edge.of(13, "then each TENT gets its PAY, less FINE if it went: COIN (0 at first; may go below 0)");
+        for (int mode = 0; mode <= 2; mode++) {
+            for (int n : new int[] {1, 2, 3, 200}) {
+                Edge.Scene still = one(mode, 5, "pay 7;");
+                Edge.is(still, "COIN of " + n + " alike", x -> x.evenings(n) == 0 ? x.of(0, 3) : -2, 7 * n);
+                Edge.is(still, "SPENT of " + n + " alike", x -> x.evenings(n) == 0 ? x.look(8) : -2, 7 * n);
+                Edge.is(still, "EVENING of " + n + " alike", x -> x.evenings(n) == 0 ? x.look(7) : -2, n);
+            }
+        }
+        // It goes on the first evening, stays on all others; its fine is taken once.
+        for (int n : new int[] {1, 2, 3, 200}) {
+            Edge.is(one(1, 5, "pay 10*x;"), "COIN of " + n, x -> x.evenings(n) == 1 ? x.of(0, 3) : -2, 30 * n - 5);
+            Edge.is(one(2, 5, "pay 10*x;"), "MOVES of " + n, x -> x.evenings(n) >= 1 ? x.of(0, 4) : -2, Math.min(n, 3));
+        }
+        Edge.of(13, "evening");
+        Edge.is(one(1, 0, "pay 10*x when evening=150; pay 3;"), "one goes on the 151st", x -> x.evenings(200), 1);
+        Edge.is(one(1, 0, "pay 10*x when evening=150; pay 3;"), "COIN then",
+            x -> x.evenings(200) == 1 ? x.of(0, 3) : -2, 199 * 3 + 30);
+        Edge.of(13, "3: the YARD told by a DRAW of W (x), then of H (y), if it could stand there and it is another one");
+        // Nobody goes on the first evening, as the draws tell where it is; on later ones somebody may.
+        for (int tents = 1; tents <= 2; tents++) {
+            boolean second = tents == 2;
+            Edge.Scene scene = x -> {
+                x.plain(3, 4);
+                Check.law(x, "pay 2+x;");
+                x.set(0, 0, 1);
+                x.tent(second ? 32 : 11, 0, second ? 0 : 3);
+                if (second) {
+                    x.tent(11, 0, 3);
+                }
+                x.state(stateTo(3, 4, 11));
+            };
+            FarFromAnybody whole = Edge.made(scene);
+            FarFromAnybody single = Edge.made(scene);
+            int went = single.evenings(1);
+            Check.due("the first evening", went, 0);
+            for (int i = 1; i < 50; i++) {
+                went += single.evenings(1);
+            }
+            Check.due("some went later", went > 0, true);
+            Check.due("evenings(50)", whole.evenings(50), went);
+            Edge.same("fifty evenings", whole, single);
+        }
     }
 
     private static void ofATent() {

@@ -8,6 +8,7 @@ public final class EdgesOfLawTest {
         text();
         fault();
         words();
+        letters();
         numbers();
         blanks();
         placeOfFaults();
@@ -15,6 +16,7 @@ public final class EdgesOfLawTest {
         lines();
         open();
         grammar();
+        truths();
         wrapping();
         pay();
         share();
@@ -132,6 +134,17 @@ public final class EdgesOfLawTest {
         claims.append(';');
         Check.due("text() of many claims", Check.law(x, claims.toString()), 1);
         Check.due("its pay", x.of(0, 6), 7);
+        // No text of 400 bytes has more to be reckoned; its last claim alone is so.
+        String dense = "pay 8when" + "1=2or".repeat(77);
+        for (int last = 1; last <= 2; last++) {
+            String whole = dense + "1=" + last + "; \n";
+            Check.due("bytes of claims side by side", whole.length(), 400);
+            Check.due("text() of claims side by side", Check.law(x, whole), 1);
+            Check.due("its pay", x.of(0, 6), last == 1 ? 8 : 0);
+        }
+        String lines = "pay 1when 1=2;".repeat(15) + "pay 5;";
+        Check.due("text() of sixteen lines", Check.law(x, lines), 16);
+        Check.due("its pay", x.of(0, 6), 5);
     }
 
     private static void fault() {
@@ -206,6 +219,20 @@ public final class EdgesOfLawTest {
         }
     }
 
+    /** Each letter makes one word with those beside it; what stands next to the letters is none. */
+    private static void letters() {
+        for (char sign = 'A'; sign <= 'z'; sign++) {
+            boolean letter = sign <= 'Z' || sign >= 'a';
+            told("pay" + sign + " 1;", 1, letter ? 0 : 3);
+            told(sign + "pay 1;", 1, 0);
+            told("pay far" + sign + ";", 1, letter ? 4 : 7);
+        }
+        for (char sign : new char[] {'@', '[', '`', '{', 192, 223, 224, 255}) {
+            told("pay" + sign + " 1;", 1, 3);
+            told("pay far" + sign + ";", 1, 7);
+        }
+    }
+
     private static void numbers() {
         Edge.of(12, "digits as many as stand together NUMBERS of 1 to 4 digits or none");
         told("pay 0;", 0, 0);
@@ -220,6 +247,14 @@ public final class EdgesOfLawTest {
         told("pay 1/10000;", 1, 6);
         told("pay 1/9999;", 0, 0);
         told("pay;", 1, 3);
+        for (char digit = '0'; digit <= '9'; digit++) {
+            told("pay 123" + digit + ";", 0, 0);
+            told("pay 1234" + digit + ";", 1, 4);
+            told("pay " + digit + "1234;", 1, 4);
+        }
+        // What stands next to the digits on either side.
+        told("pay 1234:;", 1, 8);
+        told("pay 1234/;", 1, 9);
     }
 
     private static void blanks() {
@@ -404,6 +439,50 @@ public final class EdgesOfLawTest {
         Check.due("PAY by " + law, x.of(0, 6), pay);
     }
 
+    /** What is so, by and, or, not and ( ), each of the claims in them so or not. */
+    private static void truths() {
+        Edge.of(14, "B = A {or A}. A = C {and C}. C = E (< | = | >) E | not C | ( B ).");
+        String[] so = {"0<1", "1=1", "1>0"};
+        String[] notSo = {"1<1", "0=1", "1>1"};
+        for (int mask = 0; mask < 8; mask++) {
+            for (int kind = 0; kind < 9; kind++) {
+                boolean p = (mask & 1) != 0;
+                boolean q = (mask & 2) != 0;
+                boolean r = (mask & 4) != 0;
+                String a = (p ? so : notSo)[kind % 3];
+                String b = (q ? so : notSo)[kind / 3];
+                String c = (r ? so : notSo)[(kind + kind / 3) % 3];
+                holds(a, p);
+                holds("not " + a, !p);
+                holds("not not " + a, p);
+                holds("(" + a + ")", p);
+                holds(a + " and " + b, p && q);
+                holds(a + " or " + b, p || q);
+                holds(a + " or " + b + " and " + c, p || q && r);
+                holds(a + " and " + b + " or " + c, p && q || r);
+                holds("(" + a + " or " + b + ") and " + c, (p || q) && r);
+                holds(a + " and (" + b + " or " + c + ")", p && (q || r));
+                holds("not " + a + " and " + b, !p && q);
+                holds("not " + a + " or " + b, !p || q);
+                holds("not (" + a + " and " + b + ")", !(p && q));
+                holds("not (" + a + " or " + b + ") or " + c, !(p || q) || r);
+                holds(a + " and not " + b + " and " + c, p && !q && r);
+                holds(a + " or not " + b + " or " + c, p || !q || r);
+            }
+        }
+        Edge.of(14, "(at it) the 9th ( or not that is open");
+        holds("not ".repeat(7) + "1=1", false);
+        holds("not ".repeat(8) + "1=1", true);
+        holds("not (".repeat(4) + "1=1" + ")".repeat(4), true);
+        holds("(1=2 or ".repeat(8) + "1=1" + ")".repeat(8), true);
+        holds("(1=1 and ".repeat(8) + "1=2" + ")".repeat(8), false);
+        holds("(1=1 and (1=2 or ".repeat(4) + "1=1" + "))".repeat(4), true);
+    }
+
+    private static void holds(String claim, boolean so) {
+        paid("pay 6 when " + claim + "; pay 5;", so ? 6 : 5);
+    }
+
     private static void wrapping() {
         Edge.of(14, "Ints, which wrap; / goes towards 0.");
         int power = 9999 * 9999;
@@ -418,6 +497,13 @@ public final class EdgesOfLawTest {
         paid("pay 7 when 8192*8192*32-1+1<0; pay 8;", 7);
         paid("pay 7 when 8192*8192*64=0; pay 8;", 7);
         paid("pay 7 when 8192*8192*32/1<0; pay 8;", 7);
+        // The least is below the greatest, though their difference wraps.
+        paid("pay 7 when 8192*8192*32<8192*8192*32-1; pay 8;", 7);
+        paid("pay 7 when 8192*8192*32>8192*8192*32-1; pay 8;", 8);
+        paid("pay 7 when 8192*8192*32=8192*8192*32-1; pay 8;", 8);
+        paid("pay 7 when 8192*8192*32-1>0-1; pay 8;", 7);
+        paid("pay 7 when 0-8192*8192*32=8192*8192*32; pay 8;", 7);
+        paid("pay 7 when 8192*8192*32+8192*8192*32=0; pay 8;", 7);
         // Three times towards 0 of a number just below 0.
         paid("pay 10+8192*8192*32/9999/9999/9999;", 10);
         paid("pay 100+8192*8192*32/8192/8192/31;", 99);
@@ -511,6 +597,13 @@ public final class EdgesOfLawTest {
 
     private static void facts() {
         Edge.of(14, "edge: how many of the four YARDS beside it are none");
+        int[][] edges = {{2, 1, 2}, {1, 0, 1}, {2, 1, 2}};
+        for (int yard = 0; yard < 30; yard += yard % 10 == 2 ? 8 : 1) {
+            int due = edges[yard / 10][yard % 10];
+            Check.due("at " + yard + " of three by three", payAt(3, 3, yard, "pay edge;", x -> { }), due);
+            Check.due("at " + yard + " of two wide", payAt(2, 10, yard / 10 * 10, "pay edge;", x -> { }),
+                yard < 10 ? 2 : 1);
+        }
         Check.due("in the middle", payAt(3, 3, 11, "pay edge;", x -> { }), 0);
         Check.due("at a side", payAt(3, 3, 10, "pay edge;", x -> { }), 1);
         Check.due("at a corner", payAt(3, 3, 22, "pay edge;", x -> { }), 2);
@@ -521,6 +614,13 @@ public final class EdgesOfLawTest {
         Edge.of(14, "water: how many are RIVER or BRIDGE");
         Check.due("none", payAt(3, 3, 11, "pay water;", x -> { }), 0);
         Check.due("four", payAt(3, 3, 11, "pay water;", x -> moat(x, 2)), 4);
+        for (int beside : new int[] {1, 10, 12, 21}) {
+            Check.due("a river at " + beside, payAt(3, 3, 11, "pay water;", x -> x.yard(beside, 1)), 1);
+            Check.due("a bridge at " + beside, payAt(3, 3, 11, "pay water;", x -> x.yard(beside, 2)), 1);
+        }
+        for (int corner : new int[] {0, 2, 20, 22}) {
+            Check.due("none at the corner " + corner, payAt(3, 3, 11, "pay water;", x -> x.yard(corner, 2)), 0);
+        }
         Check.due("not at the corners", payAt(3, 3, 11, "pay water;", x -> x.yard(0, 1)), 0);
         Check.due("not beyond the end of a row", payAt(10, 3, 19, "pay water;", x -> x.yard(20, 1)), 0);
         Check.due("not beyond a corner", payAt(10, 3, 10, "pay water;", x -> x.yard(9, 1)), 0);

@@ -499,17 +499,29 @@ public final class EdgesOfPlainTest {
         FarFromAnybody stayed = Edge.made(Edge::rich);
         stayed.image(true);
         Edge.same("going back to it", back, stayed);
-        FarFromAnybody full = Edge.made(x -> fullOfAll(x));
-        full.image(true);
+        FarFromAnybody full = fullAndTaken();
         for (int tent = 0; tent < 10; tent++) {
             full.told(tent, 1);
             full.set(2, tent, 3);
         }
         full.evenings(20);
         full.image(false);
-        FarFromAnybody fullStill = Edge.made(x -> fullOfAll(x));
-        fullStill.image(true);
-        Edge.same("going back to ten tents and five men", full, fullStill);
+        Edge.same("going back to ten tents and five men", full, fullAndTaken());
+        FarFromAnybody others = fullAndTaken();
+        others.plain(7, 3);
+        for (int i = 0; i < 5; i++) {
+            others.man(20 + i);
+        }
+        for (int tent = 0; tent < 10; tent++) {
+            others.tent(tent % 7 + 10 * (tent / 7), 1 + tent % 9, 3 - tent % 4);
+            others.told(tent, tent);
+        }
+        others.stranger(26);
+        others.set(0, 0, 44);
+        others.set(1, 0, 1);
+        others.evenings(9);
+        others.image(false);
+        Edge.same("going back from ten other tents and five other men", others, fullAndTaken());
         tapeBesideImage();
         Edge.of(26, "gone back to it may be more than once");
         FarFromAnybody often = Edge.made(Edge::rich);
@@ -533,6 +545,12 @@ public final class EdgesOfPlainTest {
         anew.image(false);
         Check.due("the later image counts", anew.look(7), 3);
         Check.due("FINE of the later", anew.look(5), 3);
+    }
+
+    private static FarFromAnybody fullAndTaken() {
+        FarFromAnybody x = Edge.made(y -> fullOfAll(y));
+        x.image(true);
+        return x;
     }
 
     private static void fullOfAll(FarFromAnybody x) {

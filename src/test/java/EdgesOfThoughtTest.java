@@ -4,8 +4,12 @@ public final class EdgesOfThoughtTest {
         restOrNot();
         sixtyNoons();
         sixtyNoonsToACircle();
+        circleOfTen();
         placingsAsked();
         placingsFound();
+        placingsOfOne();
+        placingsForAFine();
+        placingsAsTents();
         saves();
         savesFull();
         line();
@@ -165,9 +169,32 @@ public final class EdgesOfThoughtTest {
         circles(camp(4, 6, hunt, new int[][] {{43, 1, 1}, {40, 1, 2}, {30, 0, 1}, {1, 0, 2}}), "closed by the 60th", 9, 60);
         circles(camp(6, 5, byX, new int[][] {{32, 0, 1}, {20, 0, 2}, {44, 0, 2}, {12, 2, 2}}), "closed by the 61st", 0, 60);
         circles(camp(6, 6, byKin, new int[][] {{43, 0, 2}, {23, 1, 1}, {50, 1, 2}, {54, 0, 1}}), "closed by the 61st", 0, 60);
+        // Circles on which they stand from the first: as long as can be gone through, and longer.
+        String byEdge = "pay 6*near+4*edge+55 when x<1;pay 6*y+8*far+24;";
+        circles(camp(5, 5, byEdge, new int[][] {{41, 0, 1}, {31, 1, 1}, {44, 0, 1}}), "sixty closed by the 60th", 60, 60);
+        String byNear = "pay 5*near+4*edge+37 when x<2;pay 5*y+7*far+30;";
+        circles(camp(5, 5, byNear, new int[][] {{42, 0, 1}, {43, 0, 1}, {12, 0, 1}, {34, 1, 1}, {4, 2, 1}}),
+            "longer than sixty", 0, 60);
         // One noon later the same is closed by the 60th.
         circles(and(camp(6, 6, byKin, new int[][] {{43, 0, 2}, {23, 1, 1}, {50, 1, 2}, {54, 0, 1}}), x -> x.evenings(1)),
             "closed by the 60th after an evening", 4, 60);
+    }
+
+    private static void circleOfTen() {
+        Edge.of(17, "all TENTS on the YARDS on which they stood ahead of an earlier NOON");
+        // The two at the ends of the numbers swing in the last corner, which a river parts from the others.
+        int[][] tents = {{88, 0, 2}, {9, 0, 1}, {1, 0, 0}, {20, 0, 0}, {30, 0, 0}, {40, 0, 0}, {50, 0, 0}, {60, 0, 0},
+            {70, 0, 0}, {89, 0, 2}};
+        Edge.Scene ten = and(camp(10, 10, "pay far when y>7; pay 5;", tents), x -> {
+            for (int yard : new int[] {78, 79, 87, 97}) {
+                x.yard(yard, 1);
+            }
+        });
+        // The second goes to its best place first.
+        circles(ten, "ten tents", 2, 3);
+        circles(and(ten, x -> x.set(2, 1, 0)), "ten tents, the second of whom stays", 2, 2);
+        rests(and(ten, x -> x.set(2, 9, 0)), "ten tents, the tenth of whom stays", 1, 0);
+        rests(and(ten, x -> x.set(2, 0, 0)), "ten tents, the tenth of whom goes", 1, 0);
     }
 
     private static Edge.Scene law(int w, int h, String law) {
@@ -301,6 +328,108 @@ public final class EdgesOfThoughtTest {
         Edge.leaves(and(law(2, 2, "pay evening;"), x -> x.evenings(7)), "by the evening now", x -> x.placings(2, 20), 14);
         Edge.of(18, "all alike (no FAMILY)");
         Edge.leaves(law(2, 2, "pay 5+kin;"), "no kin", x -> x.placings(2, 20), 10);
+    }
+
+    private static void placingsOfOne() {
+        Edge.of(18, "PLACINGS of k (1 .. 3) TENTS, all alike (no FAMILY), alone on THE PLAIN");
+        for (int tens = 10; tens <= 20; tens += 10) {
+            int asked = tens;
+            Edge.leaves(law(2, 3, "pay far;"), "nobody else is there", x -> x.placings(1, asked), 99);
+            Edge.leaves(law(2, 3, "pay near;"), "nobody is near", x -> x.placings(1, asked), 0);
+            Edge.leaves(law(2, 3, "pay 9999;"), "the most of one", x -> x.placings(1, asked), 9999);
+        }
+        Edge.leaves(law(2, 3, "pay 5+x+10*y;"), "the least of one", x -> 100 * x.placings(1, 10) + x.placings(1, 11), 500);
+        Edge.leaves(law(2, 3, "pay 5+x+10*y;"), "the most of one", x -> 100 * x.placings(1, 20) + x.placings(1, 21), 2621);
+        Edge.leaves(law(2, 3, "pay 5+x+10*y;"), "at rest", x -> 100 * x.placings(1, 0) + x.placings(1, 1), 121);
+    }
+
+    /** Who stands a column from the best free one gains 10 by going, two columns 20. */
+    private static void placingsForAFine() {
+        Edge.of(18, "AT REST, if none had more by going elsewhere, less FINE: how many");
+        Edge.Scene byX = law(3, 2, "pay 10*x;");
+        int[][] twoAndThree = {{0, 1, 2}, {9, 1, 2}, {10, 6, 6}, {19, 6, 6}, {20, 15, 20}, {21, 15, 20}, {9999, 15, 20}};
+        for (int[] fine : twoAndThree) {
+            Edge.Scene scene = and(byX, x -> x.set(0, 0, fine[0]));
+            Edge.leaves(scene, "two for " + fine[0], x -> x.placings(2, 0), byTents(scene, 2)[0]);
+            Edge.leaves(scene, "three for " + fine[0], x -> x.placings(3, 0), byTents(scene, 3)[0]);
+            Check.due("two for " + fine[0] + " as told here", byTents(scene, 2)[0], fine[1]);
+            Check.due("three for " + fine[0] + " as told here", byTents(scene, 3)[0], fine[2]);
+        }
+    }
+
+    /** The answers of placings by tents that are put so: of(.., 6) tells pays, line() who would go. */
+    private static int[] byTents(Edge.Scene scene, int k) {
+        int[] answers = new int[24];
+        java.util.Arrays.fill(answers, -1);
+        answers[0] = 0;
+        for (int a = 0; a < 100; a++) {
+            for (int b = k > 1 ? a + 1 : 99; b < 100; b++) {
+                for (int c = k > 2 ? b + 1 : 99; c < 100; c++) {
+                    judge(scene, k, new int[] {a, b, c}, answers);
+                }
+            }
+        }
+        return answers;
+    }
+
+    private static void judge(Edge.Scene scene, int k, int[] row, int[] answers) {
+        FarFromAnybody x = Edge.made(scene);
+        int sum = 0;
+        for (int i = 0; i < k; i++) {
+            if (x.at(row[i], 0) != 0) {
+                return;
+            }
+            x.tent(row[i], 0, 1);
+        }
+        for (int i = 0; i < k; i++) {
+            sum += x.of(i, 6);
+        }
+        boolean rests = x.line() <= x.look(5);
+        boolean least = answers[10] == -1 || sum < answers[10];
+        boolean most = sum > answers[20];
+        answers[10] = least ? sum : answers[10];
+        answers[20] = most ? sum : answers[20];
+        for (int i = 0; i < k; i++) {
+            answers[1 + i] = rests && answers[0] == 0 ? row[i] : answers[1 + i];
+            answers[11 + i] = least ? row[i] : answers[11 + i];
+            answers[21 + i] = most ? row[i] : answers[21 + i];
+        }
+        answers[0] += rests ? 1 : 0;
+    }
+
+    private static void placingsAsTents() {
+        Edge.of(18, "AT REST, if none had more by going elsewhere, less FINE: how many; the first");
+        String[] laws = {"pay far;", "pay 30-far;", "pay 7*near+x;", "pay 9 when near=2; pay 4 when near=1; pay 6;",
+            "pay 3 when far=99; pay 5+y;", "pay far*far when edge<2; pay 20-far;", "pay 9 when near=2;", "pay water+2*far;"};
+        for (String law : laws) {
+            for (int water = 0; water <= 3; water++) {
+                for (int fine = 0; fine <= 4; fine += 2) {
+                    placingsAsTents(law, water, fine);
+                }
+            }
+        }
+    }
+
+    private static void placingsAsTents(String law, int water, int fine) {
+        // None, a river that parts the plain, one with a bridge, two that part it in three.
+        int[][] rivers = {{}, {1, 11, 21}, {1, 21}, {1, 11, 12}};
+        Edge.Scene scene = and(law(3, 3, law), x -> {
+            for (int yard : rivers[water]) {
+                x.yard(yard, 1);
+            }
+            if (water == 2) {
+                x.yard(11, 2);
+            }
+            x.set(0, 0, fine);
+        });
+        for (int k = 1; k <= 3; k++) {
+            int[] want = byTents(scene, k);
+            FarFromAnybody x = Edge.made(scene);
+            for (int what = 0; what < want.length; what++) {
+                Check.due("placings(" + k + "," + what + ") by " + law + " for " + fine + " with river " + water,
+                    x.placings(k, what), want[what]);
+            }
+        }
     }
 
     private static void saves() {
