@@ -362,10 +362,13 @@ public final class EdgesOfThoughtTest {
         int[] answers = new int[24];
         java.util.Arrays.fill(answers, -1);
         answers[0] = 0;
-        for (int a = 0; a < 100; a++) {
-            for (int b = k > 1 ? a + 1 : 99; b < 100; b++) {
-                for (int c = k > 2 ? b + 1 : 99; c < 100; c++) {
-                    judge(scene, k, new int[] {a, b, c}, answers);
+        FarFromAnybody x = Edge.made(scene);
+        int[] grass = java.util.stream.IntStream.range(0, 100).filter(yard -> x.at(yard, 0) == 0).toArray();
+        int last = grass.length - 1;
+        for (int a = 0; a <= last; a++) {
+            for (int b = k > 1 ? a + 1 : last; b <= last; b++) {
+                for (int c = k > 2 ? b + 1 : last; c <= last; c++) {
+                    judge(scene, k, new int[] {grass[a], grass[b], grass[c]}, answers);
                 }
             }
         }
@@ -376,9 +379,6 @@ public final class EdgesOfThoughtTest {
         FarFromAnybody x = Edge.made(scene);
         int sum = 0;
         for (int i = 0; i < k; i++) {
-            if (x.at(row[i], 0) != 0) {
-                return;
-            }
             x.tent(row[i], 0, 1);
         }
         for (int i = 0; i < k; i++) {
