@@ -89,6 +89,7 @@ public final class EdgesOfLawTest {
         Edge.yes(x -> { }, "end(0) of nothing", x -> x.end(0));
         Edge.is(taped(40), "what was cut off does not come again",
             x -> x.end(0) && feedBlanks(x) == 20 ? x.text() : -2, 0);
+        cutWords();
         Edge.of(10, "false, changing nothing, if it has not so many, or n is below 0");
         for (int n : new int[] {-1, -2, 41, 60, 400, 401, Integer.MIN_VALUE, Integer.MAX_VALUE}) {
             Edge.no(taped(40), "end(" + n + ")", x -> x.end(n));
@@ -96,6 +97,32 @@ public final class EdgesOfLawTest {
         Edge.no(x -> { }, "end(1) of nothing", x -> x.end(1));
         Edge.no(x -> { }, "end(-1) of nothing", x -> x.end(-1));
         Edge.no(taped(400), "end(401)", x -> x.end(401));
+    }
+
+    /** What stood behind the end belongs to no word and to no number. */
+    private static void cutWords() {
+        cut("pay far;", 6, 4);
+        cut("pay fare;", 7, 7);
+        cut("pay 12345;", 8, 8);
+        cut("pay 123456;", 9, 4);
+        cut("payy", 3, 3);
+        cut("pay", 2, 0);
+        cut("pay 1/01;", 7, 6);
+        for (String last : new String[] {"far", "1234", "x", "7", "fare", "12345", "+", "pay"}) {
+            String full = "pay 1+" + " ".repeat(394 - last.length()) + last;
+            FarFromAnybody x = new FarFromAnybody();
+            boolean whole = last.equals("far") || last.equals("1234") || last.equals("x") || last.equals("7");
+            Check.due("text() of 400 bytes that end with " + last, Check.law(x, full), -1);
+            Check.due("fault(1) of 400 bytes that end with " + last, x.fault(1), whole ? 400 : 400 - last.length());
+        }
+    }
+
+    private static void cut(String text, int n, int place) {
+        FarFromAnybody x = new FarFromAnybody();
+        Check.tape(x, text);
+        Check.due("end(" + n + ") of " + text, x.end(n), true);
+        Check.due("text() of " + n + " bytes of " + text, x.text(), -1);
+        Check.due("fault(1) of " + n + " bytes of " + text, x.fault(1), place);
     }
 
     private static void text() {
