@@ -406,7 +406,7 @@ public final class EdgesOfDaysTest {
             Edge.is(one(1, 5, "pay 10*x;"), "COIN of " + n, x -> x.evenings(n) == 1 ? x.of(0, 3) : -2, 30 * n - 5);
             Edge.is(one(2, 5, "pay 10*x;"), "MOVES of " + n, x -> x.evenings(n) >= 1 ? x.of(0, 4) : -2, Math.min(n, 3));
         }
-        Edge.of(13, "evening");
+        Edge.of(13, "EVENING (0 at first; 9999 at most) is one more");
         Edge.is(one(1, 0, "pay 10*x when evening=150; pay 3;"), "one goes on the 151st", x -> x.evenings(200), 1);
         Edge.is(one(1, 0, "pay 10*x when evening=150; pay 3;"), "COIN then",
             x -> x.evenings(200) == 1 ? x.of(0, 3) : -2, 199 * 3 + 30);
